@@ -8,6 +8,7 @@ public final class ContractsTest {
         promise20Contracts();
         promise20NoneIsInForceBehindAFault();
         promise20And21Faults();
+        promise20EarlierBytesAreGone();
         promise21LatestFault();
         promise22Owes();
         promise22LessGoesByLateBehindThePuff();
@@ -124,6 +125,10 @@ public final class ContractsTest {
         fault("dials 0 flat 1;", 1, 0);
         fault("dia l0 flat 1;", 1, 0);
         fault("Dial 0 flat 1;", 1, 0);
+        fault("xial 0 flat 1;", 1, 0);
+        fault("diam 0 flat 1;", 1, 0);
+        fault("dialz 0 flat 1;", 1, 0);
+        fault("diala 0 flat 1;", 1, 0);
         fault("diAl 0 flat 1;", 1, 0);
         fault("dialflat 0;", 1, 0);
         fault("dial dial 0", 1, 5);
@@ -173,6 +178,24 @@ public final class ContractsTest {
         fault("dial 0 `", 1, 7);
         fault("dial :", 1, 5);
         fault("dial /", 1, 5);
+    }
+
+    private static void promise20EarlierBytesAreGone() {
+        TownClocks x = town(1);
+        read(x, "dial 0 flat 9999999999;");
+        Due.due("20: four figures at the end", read(x, "dial 0 flat 1234"), -1000116);
+        read(x, "dialdialdialdial");
+        Due.due("20: a name at the end", read(x, " dial"), -1000105);
+        Due.due("20: a blank", read(x, " "), 0);
+        for (int i = 0; i < 37; i++) {
+            x.feed(Due.packed("        "), 8);
+        }
+        x.contracts();
+        StringBuilder full = new StringBuilder("dial 0 flat 1");
+        while (full.length() < 300) {
+            full.insert(0, ' ');
+        }
+        Due.due("20: figures at the end of a full tape", read(x, full.toString()), -1000400);
     }
 
     private static void promise21LatestFault() {

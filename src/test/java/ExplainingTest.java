@@ -6,6 +6,7 @@ public final class ExplainingTest {
         promise16Mark();
         promise17Explains();
         promise17NoDials();
+        promise17TwoPipesBehindTheHouse();
         promise17LeaksAtMostSixty();
         promise17DialsThatMissAnyway();
         promise17LeaksThatThereAreAreNotLookedAt();
@@ -86,6 +87,16 @@ public final class ExplainingTest {
         x.pipe(NONE, 0, 0);
         x.pipe(0, 50, 0);
         explanations("17: no dials, no set", x, 0, 1, 1, 1);
+    }
+
+    private static void promise17TwoPipesBehindTheHouse() {
+        TownClocks x = new TownClocks();
+        x.pipe(NONE, 0, 0);
+        x.pipe(NONE, 0, 0);
+        x.pipe(1, 0, 0);
+        x.dial(2, 100, 0);
+        x.mark(0, 1);
+        explanations("17: a pipe of its own", x, 1, 1, 2, 1);
     }
 
     private static void promise17LeaksAtMostSixty() {
