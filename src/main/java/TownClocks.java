@@ -645,7 +645,6 @@ public final class TownClocks {
         }
 
         void rewind() {
-            first = 0;
             behind = 0;
         }
 
@@ -654,8 +653,8 @@ public final class TownClocks {
             while (first < length && isBlank(bytes[first])) {
                 first++;
             }
-            behind = first;
             if (first >= length) {
+                behind = first;
                 sort = END;
             } else if (isLetter(bytes[first])) {
                 behind = endOfLetters();

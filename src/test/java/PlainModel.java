@@ -372,7 +372,7 @@ final class PlainModel {
     }
 
     private static final Pattern TOKEN = Pattern.compile("[ \\n]*([a-z]+|[0-9]+|[^a-z0-9 \\n]|$)", Pattern.DOTALL);
-    /** What may follow, by what stands before: a letter a token, n a number, e the end. */
+    /** The tokens of a text that may still become a whole one, a sign each: d, f, r, l the words, n a number. */
     private static final Pattern BEGUN = Pattern.compile("(dn(fn|rn|l<nn);)*(d(n([fr]n?|l(<(n(n)?)?)?)?)?)?");
 
     int contracts() {
