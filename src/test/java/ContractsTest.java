@@ -28,8 +28,7 @@ public final class ContractsTest {
     }
 
     private static int read(TownClocks x, String text) {
-        Due.feedText(x, text);
-        return x.contracts();
+        return Due.readText(x, text);
     }
 
     private static void promise19Feed() {

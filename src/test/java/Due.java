@@ -2,15 +2,21 @@
 final class Due {
     private static int asked = 0;
     private static int wrong = 0;
+    private static String about = "";
 
     private Due() {
+    }
+
+    /** What the answers that follow are about: told with each one that is not as due. */
+    static void about(String what) {
+        about = what.isEmpty() ? "" : what + ": ";
     }
 
     static void due(String call, long got, long want) {
         asked++;
         if (got != want) {
             wrong++;
-            System.out.println(call + " answered " + got + ", due is " + want);
+            System.out.println(about + call + " answered " + got + ", due is " + want);
         }
     }
 
@@ -18,7 +24,7 @@ final class Due {
         asked++;
         if (!is) {
             wrong++;
-            System.out.println("does not hold: " + what);
+            System.out.println(about + "does not hold: " + what);
         }
     }
 
@@ -34,6 +40,12 @@ final class Due {
             answer = x.feed(packed(text.substring(from, to)), to - from);
         }
         return answer;
+    }
+
+    /** Feeds a text and reads it. */
+    static int readText(TownClocks x, String text) {
+        feedText(x, text);
+        return x.contracts();
     }
 
     static long packed(String upToEight) {
