@@ -26,7 +26,7 @@ public final class EdgesTest {
         for (int promise = 1; promise <= PROMISES; promise++) {
             Due.holds("promise " + promise + " has a test of its edges", seen.contains(promise));
         }
-        System.out.println(tests + " sentences");
+        System.out.println(tests + " tests of edges");
         Due.end();
     }
 
