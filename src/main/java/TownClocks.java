@@ -20,8 +20,8 @@ public final class TownClocks {
     private final ArrayList<Dial> dials;
     private final Master master;
     private final Explanations explanations;
-    private final Tape tape;
     private final Reading reading;
+    private final Tape tape;
     private final Trace bodies;
     private int missedLatest;
 
@@ -30,8 +30,8 @@ public final class TownClocks {
         dials = new ArrayList<>();
         master = new Master();
         explanations = new Explanations();
-        tape = new Tape();
-        reading = new Reading(tape);
+        reading = new Reading();
+        tape = reading.tape;
         bodies = new Trace();
     }
 
@@ -724,17 +724,13 @@ public final class TownClocks {
 
     /** Reads contracts from the tape; they wait in rows by dial, as none may be in force if a later token is at fault. */
     private static final class Reading {
-        final Tape tape;
+        final Tape tape = new Tape();
         final int[] waitingTerms = new int[MOST_DIALS];
         final int[] waitingBelow = new int[MOST_DIALS];
         final int[] waitingPays = new int[MOST_DIALS];
         int contractsTold;
         int latestFault;
         int faultPlace;
-
-        Reading(Tape tape) {
-            this.tape = tape;
-        }
 
         /** Whether all of it was read without a fault. */
         boolean readTape(int dialsThere) {

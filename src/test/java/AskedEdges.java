@@ -134,6 +134,19 @@ final class AskedEdges {
         }
     }
 
+    @Says(promise = {15, 24, 27}, words = "1 BELL, a DIAL that strikes; 2 TOWER, a BELL with two faces")
+    static void aBellIsADialAndATowerIsABell() {
+        TownClocks x = missed(9);
+        Due.due("a bell is a dial", x.as(1, 0), 9);
+        Due.due("a tower is a dial", x.as(2, 0), 9);
+        Due.due("a tower is a bell", x.as(2, 1), 9);
+        Due.due("a bell is no tower", x.as(1, 2), KIND);
+        Due.due("a dial is no bell", x.as(0, 1), KIND);
+        Due.due("a tower is set ahead", x.ahead(2), 0);
+        Due.due("three dials", x.count(1), 3);
+        Due.due("two bells", x.count(2), 2);
+    }
+
     // ---- 25, 26
 
     @Says(promise = 25, words = "0 WEIGHT: 10 lent to all DIALS: LATE. 11 of BELLS: what 10 gives, and 10.")
@@ -174,6 +187,36 @@ final class AskedEdges {
         TownClocks x = missed(9);
         asked(x, 0, 1, 100, 20);
         asked(x, 1, 1, 119, 21, 20, 11, 10);
+    }
+
+    @Says(promise = {25, 26}, words = "Of an ask the BODY told for the KIND begins, else that of the nearest KIND that it is, too")
+    static void theBodyThatBegins() {
+        int[][] bright = {{10, 20}, {11, 21}, {12, 21}};
+        begun("by its sort", missed(9), bright);
+        int[][] dark = {{13, 22}, {13, 22}, {13, 22}};
+        begun("dark", missed(10), dark);
+    }
+
+    private static void begun(String when, TownClocks x, int[][] want) {
+        for (int d = 0; d < want.length; d++) {
+            for (int what = 0; what <= 1; what++) {
+                x.ask(d, what);
+                Due.due(when + ", the first body of ask(" + d + ", " + what + ")", x.trace(0), want[d][what]);
+            }
+        }
+    }
+
+    @Says(promise = 25, words = "It is asked as what it is told.")
+    static void anAskGoesByTheKindOfNow() {
+        TownClocks x = missed(9);
+        asked(x, 2, 0, 38, 12, 11, 10);
+        x.puff();
+        asked(x, 2, 0, -10, 13, 10);
+        asked(x, 2, 1, 1100, 22, 20);
+        x.leak(0, 0);
+        x.puff();
+        asked(x, 2, 0, 40, 12, 11, 10);
+        asked(x, 2, 1, 140, 21, 20, 12, 11, 10);
     }
 
     @Says(promise = {25, 26}, words = "WEIGHT within another one is asked of the same DIAL anew")

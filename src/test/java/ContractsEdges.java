@@ -267,6 +267,21 @@ final class ContractsEdges {
         fault(whole + "dial", 1, 23);
     }
 
+    @Says(promise = 21, words = "1 it cannot stand there")
+    static void whatCannotStandThereIsFaultOne() {
+        fault("2", 1, 0);
+        fault(";", 1, 0);
+        fault("dial 0 2", 1, 7);
+        fault("dial 0 dial 2", 1, 7);
+        fault("dial 0 flat 1 2;", 1, 14);
+        fault("dial 0 flat 1;;", 1, 14);
+        fault("dial 0 flat 1;2", 1, 14);
+        fault("dial 0 less 2", 1, 12);
+        fault("dial 0 less<2;", 1, 13);
+        good("dial 0 flat 2;", 1);
+        good("dial 0 right 9999;dial 1 less<2 2;", 2);
+    }
+
     @Says(promise = 21, words = "2 a DIAL that is not there.")
     static void aDialThatIsNotThere() {
         fault(new TownClocks(), "dial 0 flat 1;", 2, 5);

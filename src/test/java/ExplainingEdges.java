@@ -224,6 +224,33 @@ final class ExplainingEdges {
         Due.due("two explanations, one dial, no unlike pair", x.next(), 0);
     }
 
+    @Says(promise = 18, words = "THE NEXT LOOK: a DIAL")
+    static void nextIsADialNotAPipe() {
+        TownClocks x = new TownClocks();
+        for (int p = 0; p < 6; p++) {
+            x.pipe(NONE, 0, 0);
+        }
+        x.pipe(5, 0, 0);
+        x.dial(0, 50, 0);
+        x.dial(6, 50, 0);
+        // All seven pipes explain the empty set; one of them is felt at pipe 0, two at pipe 6.
+        Due.due("dial 1, on pipe 6", x.next(), 1);
+    }
+
+    @Says(promise = 18, words = "DIALS that would MISS without any LEAKS are not looked at, marked or not.")
+    static void nextMayBeADialThatMissesAnyway() {
+        TownClocks x = new TownClocks();
+        x.pipe(NONE, 50, 0);
+        x.pipe(NONE, 0, 0);
+        x.pipe(0, 0, 0);
+        x.dial(1, 50, 0);
+        x.dial(2, 100, 0);
+        // It tells nothing of the set, but two of three explanations lower its air.
+        Due.due("two of three pairs are unlike at either: the first", x.next(), 0);
+        x.pipe(2, 0, 0);
+        Due.due("four of six at pipe 2, three at pipe 1", x.next(), 1);
+    }
+
     @Says(promise = 18, words = "the DIAL for which most pairs of EXPLANATIONS would make unlike AIR at its PIPE")
     static void mostUnlikePairs() {
         TownClocks x = new TownClocks();

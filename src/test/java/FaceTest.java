@@ -103,5 +103,27 @@ public final class FaceTest {
         for (String b : banned) {
             Due.holds("the text has no " + b, !Pattern.compile(b).matcher(text).find());
         }
+        int from = text.indexOf("public TownClocks() {");
+        Due.holds("the constructor stands in the text", from >= 0);
+        String constructor = text.substring(Math.max(from, 0), text.indexOf("    }", Math.max(from, 0)));
+        Due.holds("rule 12: the constructor hands out nothing of the object that it makes",
+            !Pattern.compile("new \\w+(<\\w*>)?\\([^)]|\\bthis\\b").matcher(constructor).find());
+        theLengthsOfMethods(text);
+    }
+
+    /** Members of the class stand at four blanks, those of the classes inside at eight; so do the ends of them. */
+    private static void theLengthsOfMethods(String text) {
+        String[] lines = text.split("\n");
+        for (String indent : new String[] {"    ", "        "}) {
+            int begun = -1;
+            for (int i = 0; i < lines.length; i++) {
+                if (lines[i].matches(indent + "[a-z].*\\) \\{")) {
+                    begun = i;
+                } else if (lines[i].equals(indent + "}") && begun >= 0) {
+                    Due.holds("rule 11: line " + (begun + 1) + " begins a short method", i - begun < 60);
+                    begun = -1;
+                }
+            }
+        }
     }
 }

@@ -131,6 +131,33 @@ final class MinutesEdges {
         Due.due("0 adds nothing", x.now(1), -2);
     }
 
+    @Says(promise = 7, words = "DRIFT: what it was. BAD.")
+    static void driftTellsWhatItWas() {
+        TownClocks x = new TownClocks();
+        int was = 0;
+        for (int v = -5; v <= 5; v++) {
+            Due.due("drift(" + v + ")", x.drift(v), was);
+            Due.due("the same again", x.drift(v), v);
+            Due.due("refused", x.drift(v > 0 ? 6 : -6), BAD);
+            was = v;
+        }
+        x.puff();
+        x.sight();
+        Due.due("a puff and a sighting leave it", x.drift(0), 5);
+    }
+
+    @Says(promise = {7, 9}, words = "OFF: true time less the MASTER's, in tenths.")
+    static void offIsAboveNoughtWhereTheMasterLoses() {
+        TownClocks x = new TownClocks();
+        x.drift(4);
+        Due.puffs(x, 3);
+        Due.due("the true time has gone on by more", x.now(1), 12);
+        x.drift(-5);
+        Due.puffs(x, 4);
+        Due.due("the true time has gone on by less", x.now(1), -8);
+        Due.due("as it is found", x.sight(), -8);
+    }
+
     @Says(promise = 8, words = "A SIGHTING: OFF as it was found.")
     static void aSightingFindsOff() {
         TownClocks x = new TownClocks();
@@ -180,6 +207,18 @@ final class MinutesEdges {
         x.sight();
         x.puff();
         nows("since the latest of two", x, 8, -5, -5, 5, 2);
+    }
+
+    @Says(promise = 9, words = "Of now: 0 the minute, 1 OFF, 2 the lower, 3 the upper end of its SPAN")
+    static void eachOfNowIsItsOwn() {
+        TownClocks x = new TownClocks();
+        x.drift(2);
+        Due.puffs(x, 3);
+        for (int i = 0; i < 6; i++) {
+            x.sight();
+        }
+        Due.puffs(x, 4);
+        nows("seven minutes, four since the sixth sighting", x, 7, 8, -20, 20, 6);
     }
 
     @Says(promise = 9, words = "4 how many SIGHTINGS. BAD as a long.")
@@ -253,6 +292,17 @@ final class MinutesEdges {
         x.put(0, 3);
         x.puff();
         states("on by 3 and a puff behind the look", x, 0, -1, -2, -1, 3);
+    }
+
+    @Says(promise = 11, words = "Of a DIAL: 0 LATE, 1, 2 the ends of its KNOWN span")
+    static void theLowerEndIsAheadOfTheUpperOne() {
+        TownClocks x = missed(6);
+        x.look(0);
+        x.leak(0, 0);
+        x.puff();
+        x.leak(0, 1);
+        Due.puffs(x, 2);
+        states("six at the look, two of three since", x, 0, 8, 6, 9, 2, 0, 100);
     }
 
     @Says(promise = 11, words = "3 how many puffs running it has missed now")
@@ -419,6 +469,24 @@ final class MinutesEdges {
     }
 
     // ---- 15
+
+    @Says(promise = 15, words = "A BELL that is to strike at the true minute is set ahead by as many tenths as its PIPE's LAG in all")
+    static void aheadIsByTheLagOfItsOwnWay() {
+        TownClocks x = new TownClocks();
+        x.pipe(NONE, 50, 20);
+        x.pipe(NONE, 50, 10);
+        x.pipe(0, 50, 20);
+        x.pipe(2, 50, 0);
+        x.dial(3, 100, 1);
+        x.dial(1, 1, 2);
+        Due.due("three pipes", x.ahead(0), 40);
+        Due.due("one pipe", x.ahead(1), 10);
+        x.leak(2, 60);
+        x.drift(5);
+        Due.puffs(x, 9);
+        x.put(0, 60);
+        Due.due("leaks, misses, drift and hands change nothing", x.ahead(0), 40);
+    }
 
     @Says(promise = 15, words = "rounded up to whole seconds: 10 tenths each.")
     static void aheadIsRoundedUp() {

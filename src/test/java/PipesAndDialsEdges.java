@@ -42,6 +42,15 @@ final class PipesAndDialsEdges {
         Due.due("the first of the trace", x.trace(0), 10);
     }
 
+    @Says(promise = 2, words = "A PIPE: its number.")
+    static void aRefusedPipeTakesNoNumber() {
+        TownClocks x = new TownClocks();
+        x.pipe(NONE, 0, 0);
+        Due.due("refused", x.pipe(NONE, 51, 0), BAD);
+        Due.due("refused", x.pipe(1, 0, 0), BAD);
+        Due.due("the next number", x.pipe(0, 50, 20), 1);
+    }
+
     @Says(promise = 2, words = "PIPES 0 .. 29 (30 at most)")
     static void pipesAreThirtyAtMost() {
         TownClocks x = new TownClocks();

@@ -1,3 +1,8 @@
+import java.lang.reflect.InvocationTargetException;
+import java.lang.reflect.Method;
+import java.lang.reflect.Modifier;
+import java.util.Arrays;
+
 /** The order of the refusals, where two of them fit, and that the calls which only tell something change nothing. */
 final class RefusalEdges {
     private static final int NONE = TownClocks.NONE, BAD = TownClocks.BAD, FULL = TownClocks.FULL,
@@ -31,6 +36,46 @@ final class RefusalEdges {
         Due.due("KIND alone", x.as(0, 1), KIND);
         Due.due("no such dial", x.as(1, 1), BAD);
         Due.due("no such kind", x.as(0, 4), BAD);
+    }
+
+    @Says(promise = {2, 3, 4, 5, 7, 9, 10, 11, 12, 13, 14, 15, 16, 17, 19, 22, 23, 24, 25, 26, 27},
+        words = "Refusals are answers")
+    static void noNumberMakesACallThrow() {
+        for (Method call : TownClocks.class.getDeclaredMethods()) {
+            if (Modifier.isPublic(call.getModifiers())) {
+                withEachNumber(call, new Object[call.getParameterCount()], 0);
+            }
+        }
+    }
+
+    /** Every call with every choice of these numbers: at new towns, and at some that are full. */
+    private static void withEachNumber(Method call, Object[] numbers, int from) {
+        if (from == numbers.length) {
+            TownClocks[] towns = {new TownClocks(), Towns.busy(), Towns.fullOfPipes(), Towns.fullOfDials()};
+            for (TownClocks x : towns) {
+                Due.holds(call.getName() + Arrays.toString(numbers) + " answers", answers(call, x, numbers));
+            }
+            return;
+        }
+        boolean isLong = call.getParameterTypes()[from] == long.class;
+        int[] some = {Integer.MIN_VALUE, BAD, NONE, -1, 0, 1, 29, 30, 40, 300, Integer.MAX_VALUE};
+        for (int n : some) {
+            if (isLong) {
+                numbers[from] = ((long) n << 32) | n;
+            } else {
+                numbers[from] = n;
+            }
+            withEachNumber(call, numbers, from + 1);
+        }
+    }
+
+    private static boolean answers(Method call, TownClocks x, Object[] numbers) {
+        try {
+            call.invoke(x, numbers);
+            return true;
+        } catch (IllegalAccessException | InvocationTargetException e) {
+            return false;
+        }
     }
 
     @Says(promise = {3, 7, 10, 12, 13, 14, 16, 25}, words = "What is refused changes nothing.")
